@@ -250,12 +250,12 @@ public final class RewritingTermination {
         }
         for (int sequence = 0; sequence < sequences; sequence++) {
             writeTriedWeights(sequence);
-            int status = statusForTriedWeights();
-            if (status != NONE) {
-                System.arraycopy(triedWeights, 0, now.weights, 0, now.letterCount);
-                now.status = status;
-                takeFoundLevels();
-                return 1;
+            boolean hopeful = levelSearch.prepare(now, triedWeights);
+            for (int status = 0; status <= 1 && hopeful; status++) {
+                if (levelSearch.findFor(status)) {
+                    takeFoundOrder(status);
+                    return 1;
+                }
             }
         }
         return NONE;
@@ -523,16 +523,10 @@ public final class RewritingTermination {
         }
     }
 
-    private int statusForTriedWeights() {
-        if (!levelSearch.prepare(now, triedWeights)) {
-            return NONE;
-        }
-        for (int status = 0; status <= 1; status++) {
-            if (levelSearch.findFor(status)) {
-                return status;
-            }
-        }
-        return NONE;
+    private void takeFoundOrder(int status) {
+        System.arraycopy(triedWeights, 0, now.weights, 0, now.letterCount);
+        now.status = status;
+        takeFoundLevels();
     }
 
     private static long millionths(float value) {
@@ -587,7 +581,8 @@ public final class RewritingTermination {
 
         /** The letter at a distance from the end at which the status starts. */
         static int letterFrom(long word, int distance, int status) {
-            return letterAt(word, status == 0 ? distance : sizeOf(word) - 1 - distance);
+            int lower = status == 0 ? sizeOf(word) - 1 - distance : distance;
+            return (int) (word >>> LETTER_BITS * lower) & 7;
         }
 
         static long make(int size, long letters) {
@@ -1266,8 +1261,6 @@ public final class RewritingTermination {
         final long[] wholes = new long[MOST_ELEMENTS];
         private final float[] floats = new float[MOST_ELEMENTS];
         private final double[] doubles = new double[MOST_ELEMENTS];
-        /** Zero divided by zero is marked here: LANGUAGE.md allows no arithmetic that answers NaN. */
-        private final boolean[] notNumbers = new boolean[MOST_ELEMENTS];
 
         boolean isFree() {
             return type == FREE;
@@ -1280,7 +1273,6 @@ public final class RewritingTermination {
                 wholes[index] = 0L;
                 floats[index] = 0.0f;
                 doubles[index] = 0.0;
-                notNumbers[index] = false;
             }
         }
 
@@ -1293,7 +1285,6 @@ public final class RewritingTermination {
         }
 
         void put(int index, long value) {
-            notNumbers[index] = false;
             if (type == FLOATS) {
                 floats[index] = (float) value;
             } else if (type == DOUBLES) {
@@ -1303,21 +1294,20 @@ public final class RewritingTermination {
             }
         }
 
+        /**
+         * Divides floats or doubles. LANGUAGE.md allows no arithmetic that answers NaN, as 0 / 0 does; but NaN stays NaN
+         * when it is divided, and is cast to 0, so nobody can tell it from a zero that stays as it is.
+         */
         void divide(int index, int divisor) {
-            boolean isZero = type == FLOATS ? floats[index] == 0.0f : doubles[index] == 0.0;
-            if (notNumbers[index] || isZero && divisor == 0) {
-                notNumbers[index] = true;
-            } else if (type == FLOATS) {
+            if (type == FLOATS && floats[index] != 0.0f) {
                 floats[index] = floats[index] / (float) divisor;
-            } else {
+            }
+            if (type == DOUBLES && doubles[index] != 0.0) {
                 doubles[index] = doubles[index] / (double) divisor;
             }
         }
 
         long asLong(int index) {
-            if (notNumbers[index]) {
-                return 0L;
-            }
             if (type == FLOATS) {
                 return (long) floats[index];
             }
@@ -1328,7 +1318,6 @@ public final class RewritingTermination {
             System.arraycopy(source.wholes, sourceIndex, wholes, targetIndex, count);
             System.arraycopy(source.floats, sourceIndex, floats, targetIndex, count);
             System.arraycopy(source.doubles, sourceIndex, doubles, targetIndex, count);
-            System.arraycopy(source.notNumbers, sourceIndex, notNumbers, targetIndex, count);
         }
     }
 }

@@ -18,6 +18,7 @@ public final class ReferenceTests {
     private static final java.util.Map<String, Method> SLOW = new java.util.TreeMap<>();
     private int letters = 3;
     private boolean wrong = false;
+    private boolean arrays = false;
 
     private ReferenceTests(long seed) { random = new Random(seed); }
 
@@ -42,19 +43,22 @@ public final class ReferenceTests {
 
     private void run(java.util.Map<String, Integer> kinds) throws Exception {
         List<String> names = new ArrayList<>(REAL.keySet());
-        int style = random.nextInt(4);
+        int style = random.nextInt(6);
+        arrays = random.nextInt(3) == 0;
         int made = 0;
         while (made < CALLS && !wrong) {
             int pick = random.nextInt(100);
-            if (pick < 12) made += typeRule(style);
+            if (arrays && pick < 50) made += arrayCall(kinds);
+            else if (pick < 12) made += typeRule(style);
             else if (pick < 20) made += typeString();
             else {
                 String name = names.get(random.nextInt(names.size()));
                 boolean rare = name.equals("reset") || name.equals("restore") || name.equals("clearInput");
                 boolean slowOne = (name.equals("findLevels") || name.equals("findWeights")) && letters > 4;
                 if (rare && random.nextInt(6) != 0 || slowOne && random.nextInt(8) != 0) continue;
-                call(name, argumentsFor(REAL.get(name)), kinds);
+                long answer = call(name, argumentsFor(REAL.get(name)), kinds);
                 made++;
+                if (name.equals("findLoop") && answer > 0 && answer < 40) made += readLoop((int) answer, kinds);
             }
         }
     }
@@ -65,8 +69,38 @@ public final class ReferenceTests {
         log.add(name + Arrays.toString(arguments) + ": " + got + (got == want ? "" : ", due is " + want));
         if (got != want) wrong = true;
         letters = slow.letters();
-        if (kinds != null) kinds.merge(name + (got < 0 ? " " + got : got == 0 ? " zero" : " positive"), 1, Integer::sum);
+        if (kinds != null) kinds.merge(name + (got < -14 ? " negative" : got < 0 ? " " + got : got == 0 ? " zero" : " positive"), 1, Integer::sum);
         return got;
+    }
+
+    private int readLoop(int steps, java.util.Map<String, Integer> kinds) throws Exception {
+        for (int step = 0; step <= steps; step++) {
+            for (int what = 0; what < 2; what++) call("loopStep", new Object[] {step, what}, kinds);
+        }
+        return 2 * steps + 2;
+    }
+
+    /** Few slots, types and sizes, so that most calls find an array and many find two of one type. */
+    private int arrayCall(java.util.Map<String, Integer> kinds) throws Exception {
+        int slot = random.nextInt(2);
+        int index = random.nextInt(3);
+        int other = random.nextInt(3);
+        switch (random.nextInt(12)) {
+            case 0: call("allocate", new Object[] {slot, 2 + random.nextInt(2) - 2 * (random.nextInt(6) / 5), 2 + random.nextInt(3)}, kinds); break;
+            case 1: case 2: case 3: call("putElement", new Object[] {slot, index, wide()}, kinds); break;
+            case 4: case 5: case 6: call("divideElement", new Object[] {slot, index, fitting("divideElement", 2)}, kinds); break;
+            case 7: case 8: call("copyElements", new Object[] {slot, index, random.nextInt(2), other, random.nextInt(4)}, kinds); break;
+            case 9: return tryCertificate(kinds);
+            default: call("element", new Object[] {slot, index}, kinds); break;
+        }
+        return 1;
+    }
+
+    private int tryCertificate(java.util.Map<String, Integer> kinds) throws Exception {
+        call("allocate", new Object[] {2, 0, 8}, kinds);
+        for (int rule = 0; rule < 4; rule++) call("putElement", new Object[] {2, rule, (long) random.nextInt(4)}, kinds);
+        call("checkCertificate", new Object[] {2}, kinds);
+        return 6;
     }
 
     private int type(String text) throws Exception {
@@ -96,7 +130,9 @@ public final class ReferenceTests {
         if (style == 0) { left = word(1, 2); right = word(0, 3); }
         else if (style == 1) { left = word(1, 6); right = word(0, 6); }
         else if (style == 2) { left = word(2, 4); right = shuffled(left); }
-        else { left = word(2, 5); right = word(0, left.length() - 1); }
+        else if (style == 3) { left = word(2, 5); right = word(0, left.length() - 1); }
+        else if (style == 4) { left = word(1, 2); right = word(2, 4); }
+        else { left = word(1, 1); right = word(1, 1); }
         if (random.nextInt(40) == 0) left = word(0, 7);
         if (random.nextInt(40) == 0) right = word(0, 8);
         int calls = type(left + (random.nextInt(50) == 0 ? "" : ">") + right);
