@@ -569,7 +569,7 @@ public final class RewritingTermination {
         return !allZero;
     }
 
-    /** Strings packed into longs, so that deriving one makes no object: the length above twelve letters, the last lowest. */
+    /** Strings packed into longs, so that deriving one makes no object: the length on top, the last letter lowest. */
     private static final class Word {
         static int sizeOf(long word) {
             return (int) (word >>> SIZE_SHIFT) & 15;
@@ -1006,7 +1006,7 @@ public final class RewritingTermination {
                     if (next == NO_WORD) {
                         continue;
                     }
-                    // The left side is looked for before the limit: the string that closes a loop is never one too many.
+                    // Before the limit is looked at: the string that closes a loop is never one too many.
                     if (Word.occurs(words[0], next)) {
                         return storeLoop(loop, number, rule, position);
                     }
@@ -1053,7 +1053,7 @@ public final class RewritingTermination {
 
         final int[] digits = new int[MOST_PLACES];
 
-        /** Whether the first digits can be the beginning of what is sought; with all digits chosen, whether they are it. */
+        /** Whether the chosen digits can begin what is sought; with all of them chosen, whether they are it. */
         abstract boolean mayFit(int chosen);
 
         boolean findFirst(int places, int limit) {
@@ -1087,7 +1087,7 @@ public final class RewritingTermination {
         }
     }
 
-    /** Searches for factors by which the sum of every row is at least a bound: weights, or a certificate against them. */
+    /** Searches for factors by which every row's sum is at least a bound: weights, or a certificate against them. */
     private static final class LinearSearch extends Search {
         private int rows;
         private int places;
@@ -1295,8 +1295,8 @@ public final class RewritingTermination {
         }
 
         /**
-         * Divides floats or doubles. LANGUAGE.md allows no arithmetic that answers NaN, as 0 / 0 does; but NaN stays NaN
-         * when it is divided, and is cast to 0, so nobody can tell it from a zero that stays as it is.
+         * Divides floats or doubles. LANGUAGE.md allows no arithmetic that answers NaN, as 0 / 0 does; but NaN stays
+         * NaN when it is divided, and is cast to 0, so nobody can tell it from a zero that stays as it is.
          */
         void divide(int index, int divisor) {
             if (type == FLOATS && floats[index] != 0.0f) {
