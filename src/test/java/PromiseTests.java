@@ -1,85 +1,8 @@
 /** At least one test for each promise of the document, named by its number; and the document's examples. */
-public final class PromiseTests {
-    private static final int MIN = Integer.MIN_VALUE;
-    private static final int MAX = Integer.MAX_VALUE;
-
-    private static int passed = 0;
-    private static int failed = 0;
-    private static String promise = "";
-    private static RewritingTermination x;
-
+public final class PromiseTests extends Checks {
     public static void main(String[] args) throws Exception {
-        java.lang.reflect.Method[] all = PromiseTests.class.getDeclaredMethods();
-        java.util.Arrays.sort(all, java.util.Comparator.comparing(java.lang.reflect.Method::getName));
-        for (java.lang.reflect.Method m : all) {
-            if (m.getName().startsWith("promise") || m.getName().startsWith("example")) {
-                promise = m.getName();
-                fresh();
-                m.invoke(null);
-            }
-        }
-        System.out.println("PromiseTests: " + passed + " passed, " + failed + " failed");
-        if (failed != 0) System.exit(1);
-    }
-
-    private static void fresh() { x = new RewritingTermination(); }
-
-    private static void due(String call, long got, long want) {
-        if (got == want) {
-            passed++;
-        } else {
-            failed++;
-            System.out.println(promise + ": " + call + " answered " + got + ", due is " + want);
-        }
-    }
-
-    private static void type(String text) {
-        for (char c : text.toCharArray()) x.append(c, 1);
-    }
-
-    private static int rule(String text) {
-        type(text);
-        return x.addRule();
-    }
-
-    private static void rules(String... texts) {
-        for (String text : texts) due("rule " + text, rule(text) < 0 ? 0 : 1, 1);
-    }
-
-    private static int string(String text) {
-        type(text);
-        return x.setString();
-    }
-
-    private static String string() {
-        StringBuilder s = new StringBuilder();
-        for (int i = 0; i < x.stringLength(); i++) s.append((char) ('a' + x.stringLetter(i)));
-        return s.toString();
-    }
-
-    private static void dueString(String want) {
-        if (string().equals(want)) {
-            passed++;
-        } else {
-            failed++;
-            System.out.println(promise + ": the string is " + string() + ", due is " + want);
-        }
-    }
-
-    private static void dueWeights(int... want) {
-        for (int k = 0; k < want.length; k++) due("weight(" + k + ")", x.weight(k), want[k]);
-    }
-
-    private static void dueLevels(int... want) {
-        for (int k = 0; k < want.length; k++) due("level(" + k + ")", x.level(k), want[k]);
-    }
-
-    private static void weights(int... all) {
-        for (int k = 0; k < all.length; k++) x.setWeight(k, all[k]);
-    }
-
-    private static void levels(int... all) {
-        for (int k = 0; k < all.length; k++) x.setLevel(k, all[k]);
+        runAll(PromiseTests.class);
+        end("PromiseTests");
     }
 
     static void example1() {
@@ -823,12 +746,6 @@ public final class PromiseTests {
         rules("dd>aaaaaa", "a>b", "b>c");
         due("too many strings", x.findLoop(1), -7);
         due("loopStep", x.loopStep(0, 0), 0);
-    }
-
-    /** From aafff come 5 * 5 * 2 * 2 * 2 = 200 strings, the last one eeeee after eleven steps. */
-    private static void rulesFor200Strings() {
-        x.reset(6);
-        rules("aafff>bafff", "a>b", "b>c", "c>d", "d>e", "f>e");
     }
 
     static void promise32At200Strings() {
