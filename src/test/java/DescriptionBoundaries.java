@@ -208,6 +208,36 @@ final class DescriptionBoundaries extends Boundaries {
         due("from the left, the second pair", x.compareWithInput(), 0);
         type("ac");
         due("from the left, the first pair", x.compareWithInput(), 2);
+        for (int length = 1; length <= 12; length++) {
+            for (int place = 0; place < length; place++) {
+                for (int status = 0; status <= 1; status++) comparePlaces(length, place, status);
+            }
+        }
+    }
+
+    /** One string has its only b at a place, the other one nowhere, or at the place that is compared next. */
+    private static void comparePlaces(int length, int place, int status) {
+        fresh();
+        levels(0, 1, 0);
+        x.setStatus(status);
+        String all = "a".repeat(length);
+        String one = withB(all, place);
+        String next = withB(all, status == 0 ? place + 1 : place - 1);
+        string(one);
+        type(all);
+        due(one + " with " + all, x.compareWithInput(), 2);
+        type(next);
+        due(one + " with " + next, x.compareWithInput(), 2);
+        string(next);
+        type(one);
+        due(next + " with " + one, x.compareWithInput(), 0);
+        string(all);
+        type(one);
+        due(all + " with " + one, x.compareWithInput(), 0);
+    }
+
+    private static String withB(String all, int place) {
+        return place < 0 || place >= all.length() ? all : all.substring(0, place) + "b" + all.substring(place + 1);
     }
 
     static void longerIsGreater() {

@@ -45,6 +45,10 @@ final class NumberBoundaries extends Boundaries {
         x.setApproximateWeight(1, 1, 10);
         due("0.1 less 0.125", x.improve(1), 0);
         due("b is 0", x.approximateWeight(1), 0);
+        x.setApproximateWeight(1, 125001, 1000000);
+        due("0.125001 less 0.125", x.improve(1), 0);
+        due("b is just above 0", x.approximateWeight(1), (long) ((double) (125001f / 1000000f - 0.125f) * 1000000.0));
+        due("b is not 0", x.setApproximateWeight(1, 0, 1), 1);
         x.reset(1);
         rules("a>aaaaaa");
         due("all down to 0", x.improve(100), 0);

@@ -53,7 +53,8 @@ public final class ReferenceTests {
             else if (pick < 20) made += typeString();
             else {
                 String name = names.get(random.nextInt(names.size()));
-                boolean rare = name.equals("reset") || name.equals("restore") || name.equals("clearInput");
+                boolean reads = name.equals("addRule") || name.equals("setString") || name.equals("compareWithInput");
+                boolean rare = reads || name.equals("reset") || name.equals("restore") || name.equals("clearInput");
                 boolean slowOne = (name.equals("findLevels") || name.equals("findWeights")) && letters > 4;
                 if (rare && random.nextInt(6) != 0 || slowOne && random.nextInt(8) != 0) continue;
                 long answer = call(name, argumentsFor(REAL.get(name)), kinds);

@@ -23,6 +23,13 @@ final class SearchBoundaries extends Boundaries {
         rules("a>bb", "ccccc>a");
         due("not the least sum, but the least sequence", x.findWeights(6), 2);
         dueWeights(1, 0, 1);
+        fresh(6);
+        rules("a>b", "b>c", "c>d", "d>e", "e>f", "f>", "ab>c", "aaaaaa>bbbbbb");
+        due("eight rules", x.findWeights(6), 21);
+        dueWeights(6, 5, 4, 3, 2, 1);
+        x.removeRule(7);
+        rules("aaaaa>bbbbbb");
+        due("eight rules, the last one without weights", x.findWeights(6), -6);
         fresh(2);
         rules("aab>ba");
         due("more on the left of one letter", x.findWeights(1), 1);
@@ -150,6 +157,19 @@ final class SearchBoundaries extends Boundaries {
             due("levels up to n - 1", x.findLevels(), due);
             for (int k = 0; k < n; k++) due("level", x.level(k), k);
         }
+        for (String same : new String[] {"", "a", "b", "c", "ab", "cc", "cab", "aaaa", "bbbb", "cccc"}) {
+            fresh();
+            rules(same + "ab>" + same + "ba");
+            due("after " + same + ", from the left", x.findLevels(), 1);
+            fresh();
+            x.setStatus(1);
+            rules("ab" + same + ">ba" + same);
+            due("before " + same + ", from the right", x.findLevels(), 10);
+        }
+        fresh(2);
+        weights(0, 1);
+        rules("ba>b");
+        due("longer by a letter of no weight", x.findLevels(), 1);
         fresh(4);
         rules("c>a");
         due("no level without need", x.findLevels(), 100);
