@@ -1,5 +1,5 @@
 /** The boundary cases that the document's description names, before its first promise. */
-final class DescriptionBoundaries extends Boundaries {
+final class DescriptionBoundaries extends Sentences {
     static void calls() {
         says(0, "An object is used for at most 512 calls after it has been made;");
         for (int call = 1; call <= 255; call++) {

@@ -14,12 +14,13 @@ import java.util.regex.Pattern;
 final class Document {
     private static final Path FILE = Path.of("../shared/DOC.md");
 
-    /** What a sentence says that names a boundary case: a limit, something empty or full, an error, what a refusal leaves. */
-    private static final Pattern BOUNDARY = Pattern.compile("[A-Z]+_[A-Z]+|FULL|NONE|\\d to |\\d or \\d|\\b(at most|at least|up to)\\b"
-        + "|(more|less|larger) than|below|empt|Empt|[Ww]ithout|With one|\\bstays?\\b|keep|\\btoo\\b|consume|one or more|no loop"
-        + "|discard|ignored|may be 0|beyond|exactly|initially|no pair|Letters with equal|replac|checked|deleted|become|counted from"
-        + "|not added again|whether it is new|when a rule is visited|another float|negative|a Java cast|as by Java|no rules");
+    /** Sentences without anything that a call could show: titles, names of parameters, remarks on the document itself. */
+    private static final Pattern SILENT = Pattern.compile("(Strings|Rules|Balance|Weights|Precedence|Order|Admissibility"
+        + "|Approximate weights|Input buffer|Arrays|Details)\\.|`(\\w+)`: the \\2|A termination analyser for string .*"
+        + "|what later calls answer is free\\.|Two strings are compared as follows\\.|The constants:"
+        + "|The constructor and the methods follow, .*");
 
+    private final List<String> examples = new ArrayList<>();
     private final Map<Integer, List<String>> sentences = new TreeMap<>();
     private final Map<Integer, Set<String>> quoted = new TreeMap<>();
 
@@ -31,12 +32,13 @@ final class Document {
             String line = paragraph.strip().replaceAll("\\s+", " ");
             Matcher heading = Pattern.compile("## Promise (\\d+):.*").matcher(line);
             if (heading.matches()) promise = Integer.parseInt(heading.group(1));
+            else if (line.matches("- \\w+\\(.*")) examples.add(line);
             else if (!line.isEmpty() && !isOutside(line)) addSentences(promise, line);
         }
     }
 
     private static boolean isOutside(String line) {
-        return line.startsWith("#") || line.matches("- \\w+\\(.*") || line.matches("`.*`");
+        return line.startsWith("#") || line.matches("`.*`");
     }
 
     private void addSentences(int promise, String line) {
@@ -51,17 +53,17 @@ final class Document {
         return sentences.getOrDefault(promise, List.of()).contains(sentence);
     }
 
-    /** The sentences that name a boundary case and that no test quotes. */
+    /** The sentences that no test quotes and that a call could show to be broken. */
     List<String> forgotten() {
         List<String> all = new ArrayList<>();
         sentences.forEach((promise, said) -> {
             for (String sentence : said) {
                 boolean known = quoted.getOrDefault(promise, Set.of()).contains(sentence);
-                if (!known && BOUNDARY.matcher(sentence).find()) all.add("promise " + promise + ": " + sentence);
+                if (!known && !SILENT.matcher(sentence).matches()) all.add("promise " + promise + ": " + sentence);
             }
         });
         return all;
     }
 
-    int promises() { return sentences.size() - 1; }
+    List<String> examples() { return examples; }
 }

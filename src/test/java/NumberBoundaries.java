@@ -1,5 +1,5 @@
 /** The boundary cases of promises 34 to 47: approximate weights, arrays, certificates, snapshots. */
-final class NumberBoundaries extends Boundaries {
+final class NumberBoundaries extends Sentences {
     static void smallMargins() {
         says(34, "If the margin of a rule is less than 0.5f, then for each letter in ascending order, the balance (converted to float)"
             + " times 0.125f is added to its approximate weight, in float arithmetic;");

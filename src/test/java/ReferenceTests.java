@@ -60,6 +60,7 @@ public final class ReferenceTests {
                 long answer = call(name, argumentsFor(REAL.get(name)), kinds);
                 made++;
                 if (name.equals("findLoop") && answer > 0 && answer < 40) made += readLoop((int) answer, kinds);
+                if (name.equals("findCertificate") && answer > 0 && random.nextInt(3) == 0) made += checkFound((int) answer, kinds);
             }
         }
     }
@@ -102,6 +103,18 @@ public final class ReferenceTests {
         for (int rule = 0; rule < 4; rule++) call("putElement", new Object[] {2, rule, (long) random.nextInt(4)}, kinds);
         call("checkCertificate", new Object[] {2}, kinds);
         return 6;
+    }
+
+    /** Puts the digits of a found certificate into an array, sometimes with one of them changed. */
+    private int checkFound(int certificate, java.util.Map<String, Integer> kinds) throws Exception {
+        int rules = slow.ruleCount();
+        call("allocate", new Object[] {2, 0, rules + random.nextInt(2)}, kinds);
+        for (int rule = rules - 1, rest = certificate; rule >= 0; rule--, rest /= 4) {
+            long factor = rest % 4 + (random.nextInt(16) == 0 ? random.nextInt(5) - 2 : 0);
+            call("putElement", new Object[] {2, rule, factor}, kinds);
+        }
+        call("checkCertificate", new Object[] {2}, kinds);
+        return rules + 2;
     }
 
     private int type(String text) throws Exception {

@@ -1,5 +1,5 @@
 /** The boundary cases of promises 1 to 19: the alphabet, the input buffer, the rules, the weights and levels, comparing. */
-final class RuleBoundaries extends Boundaries {
+final class RuleBoundaries extends Sentences {
     static void newObject() {
         says(1, "Creates an analyser with 3 letters.");
         due("letters", x.letters(), 3);

@@ -1,5 +1,5 @@
 /** The boundary cases of promises 20 to 33: searching, the current string, rewriting, derivations and loops. */
-final class SearchBoundaries extends Boundaries {
+final class SearchBoundaries extends Sentences {
     static void leastWeights() {
         says(20, "Of all sequences of weights from 0 to a limit, for the letters in ascending order, the lexicographically smallest one"
             + " is taken.");

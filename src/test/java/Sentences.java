@@ -1,5 +1,5 @@
-/** Tests of boundary cases: each begins with the sentence of the document that it would catch being broken. */
-abstract class Boundaries extends Checks {
+/** Tests of single sentences: each begins with the sentence of the document that it would catch being broken. */
+abstract class Sentences extends Checks {
     static Document document;
 
     /** Begins a test, with a new object; the sentence must stand in the document under that promise. */
